@@ -114,17 +114,18 @@ public final class NetTest {
     }
 
     private static void edgeOfTheNet() {
-        StoneDates x = Check.withTown(0);
+        StoneDates x = Check.withTown(777);
         Check.stone(x, 0, "long 8.0.0.0-14.?;");
-        Check.stone(x, 0, "long 8.0.0.0-15.?;moon 0-27;");
-        Check.stone(x, 0, "long 8.0.0.0-15.?;moon 0-28;");
-        for (int i = 0; i < 3; i++) {
-            boolean in = x.many(i) <= 300;
-            Check.due("settled " + i, x.settled(i), in ? x.many(i) : StoneDates.NONE);
-        }
+        Check.stone(x, 0, "long 8.0.0.0-16.?;moon 0-25;");
         Check.due("300 days", x.many(0), 300);
-        x.distance(0, 2, 0);
-        Check.due("least", x.least(), 0);
+        Check.due("301 days", x.many(1), 301);
+        Check.due("settled of 300", x.settled(0), 300);
+        Check.due("the 300th", x.settledDay(0, 299), FIRST + 299);
+        Check.due("settled of 301", x.settled(1), StoneDates.NONE);
+        Check.due("of the net", x.count(6), 1);
+        x.distance(0, 1, 500000);
+        Check.due("a distance that is not asked", x.least(), 0);
+        Check.due("it is not wrong", x.wrong(0), StoneDates.NONE);
     }
 
     private static void laterStones() {

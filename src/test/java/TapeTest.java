@@ -6,6 +6,7 @@ public final class TapeTest {
         tape();
         tapeOfStone();
         places();
+        tails();
         standing();
         limits();
         randomTexts();
@@ -58,6 +59,10 @@ public final class TapeTest {
         place("long 9.9.16.0;", 13);
         place("long 9.9.16.0.0.0;", 15);
         place("long", 4);
+        place("long 9", 6);
+        place("long 9.9.16.0", 13);
+        place("long 9.9lord 1;", 8);
+        place("long 9.9/.9.9.9;", 9);
         place("long 9.9.16.0.0", 15);
         place("long 9.9.16.0.0  ", 17);
         place("number", 6);
@@ -86,6 +91,11 @@ public final class TapeTest {
         place("Long 9.9.9.9.9;", 0);
         place("lOng 9.9.9.9.9;", 0);
         place("longs 1", 0);
+        place("lordz 1;", 0);
+        place("lorda 1;", 0);
+        place("lord`1;", 4);
+        place("lord{1;", 4);
+        place("number 1:;", 8);
         place("lon 1", 0);
         place("moon 1 2;", 7);
         place("month 1/2/3-4/?;", 14);
@@ -101,6 +111,26 @@ public final class TapeTest {
         place("lord 1;".repeat(12) + " x", 85);
         place("lord 1;".repeat(12) + ";", 84);
         place("lord 1;".repeat(11) + "lord 1", 83);
+    }
+
+    /** Bytes of the tape behind the text are no part of it. */
+    private static void cut(String text, String behind, int want) {
+        StoneDates x = Check.withTown(0);
+        Check.feed(x, text + behind);
+        Check.due("'" + text + "' ahead of '" + behind + "'", x.stone(0, text.length()), want);
+    }
+
+    private static void tails() {
+        cut("lord 1", ";", -2 - 6);
+        cut("lord ", "1;", -2 - 5);
+        cut("lord", "s", -2 - 4);
+        cut("lor", "d 1;", -2);
+        cut("lord 1;", "x", 0);
+        cut("lord 1; ", "lord 2;", 0);
+        cut("lord 12", "3;", -2 - 7);
+        cut("lord 5-1", "0;", -2 - 7);
+        cut("lord 5", "-1;", -2 - 6);
+        cut("long 1.1.1.1", ".1;", -2 - 12);
     }
 
     private static void stands(String text, int many) {
