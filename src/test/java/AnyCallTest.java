@@ -11,6 +11,9 @@ public final class AnyCallTest {
         4399, 4400, 500000, 500001, 1151999, 1152000, 1583999, 1584000, 10000000, 10000001,
         Integer.MAX_VALUE, Integer.MIN_VALUE, -1, -2, -500000, -500001};
 
+    // Three counts, ten feeds and the stone itself.
+    private static final int MOST_FOR_A_STONE = 14;
+
     public static void main(String[] args) throws IllegalAccessException {
         List<Method> face = new ArrayList<>();
         for (Method m : StoneDates.class.getDeclaredMethods()) {
@@ -20,13 +23,16 @@ public final class AnyCallTest {
         }
         face.sort(Comparator.comparing(Method::getName));
         Random random = new Random(17);
-        for (int round = 0; round < 300; round++) {
+        for (int round = 0; round < 500; round++) {
             StoneDates x = new StoneDates();
-            for (int i = 0; i < 512; i++) {
-                if (random.nextInt(12) == 0 && x.count(0) > 0 && x.count(1) < 30) {
+            int calls = 0;
+            while (calls < 512) {
+                if (random.nextInt(12) == 0 && calls + MOST_FOR_A_STONE <= 512) {
                     someStone(x, random);
+                    calls += MOST_FOR_A_STONE;
                 } else {
                     call(x, face.get(random.nextInt(face.size())), random);
+                    calls++;
                 }
             }
         }
@@ -34,10 +40,13 @@ public final class AnyCallTest {
     }
 
     private static void someStone(StoneDates x, Random random) {
+        if (x.count(0) == 0 || x.count(1) == 30) {
+            return;
+        }
         String text = random.nextBoolean() ? Texts.spoil(Texts.make(random), random)
                 : "long 9.9." + random.nextInt(3) + "." + random.nextInt(18) + "." + random.nextInt(20)
                 + (random.nextBoolean() ? ";" : "-19;");
-        Check.feed(x, text);
+        Check.feed(x, text.substring(0, Math.min(200, text.length())));
         x.stone(0, Math.min(text.length(), x.count(5)));
     }
 

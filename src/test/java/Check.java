@@ -60,6 +60,18 @@ final class Check {
         return x.stone(town, text.length());
     }
 
+    /** A text that is none, with its place. */
+    static void place(String text, int want) {
+        due("'" + text + "'", stone(withTown(0), 0, text), -2 - want);
+    }
+
+    /** A text that stands, with how many days its list has in a town of base 0. */
+    static void stands(String text, int many) {
+        StoneDates x = withTown(0);
+        due("'" + text + "'", stone(x, 0, text), 0);
+        due("many '" + text + "'", x.count(1) == 1 ? x.many(0) : -9, many);
+    }
+
     static StoneDates withTown(int base) {
         StoneDates x = new StoneDates();
         x.town(base);

@@ -50,8 +50,8 @@ public final class DayTest {
     }
 
     private static void everySign() {
-        StoneDates x = new StoneDates();
         for (int day = 1152000; day <= 1583999; day += day % 97 + 1) {
+            StoneDates x = new StoneDates();
             int left = day;
             int[] sizes = {144000, 7200, 360, 20, 1};
             for (int i = 0; i < 5; i++) {
@@ -83,17 +83,23 @@ public final class DayTest {
         Check.refused("moon(1152000, 1)", Check.INDEX, () -> x.moon(1152000, 1));
     }
 
-    private static void moons() {
+    private static final int[] BASES = {0, 1, 1000, 4399};
+
+    private static StoneDates withBases() {
         StoneDates x = new StoneDates();
-        int[] bases = {0, 1, 1000, 4399};
-        for (int base : bases) {
+        for (int base : BASES) {
             x.town(base);
         }
-        Check.due("moon(1366560, 0)", x.moon(1366560, 0), 20);
-        Check.due("moon(1366560, 2)", x.moon(1366560, 2), 16);
+        return x;
+    }
+
+    private static void moons() {
+        Check.due("moon(1366560, 0)", withBases().moon(1366560, 0), 20);
+        Check.due("moon(1366560, 2)", withBases().moon(1366560, 2), 16);
         for (int day = 1152000; day <= 1583999; day += day % 89 + 1) {
-            for (int i = 0; i < bases.length; i++) {
-                long want = (long) (day + bases[i]) * 149 % 4400 / 149;
+            StoneDates x = withBases();
+            for (int i = 0; i < BASES.length; i++) {
+                long want = (long) (day + BASES[i]) * 149 % 4400 / 149;
                 Check.due("moon(" + day + ", " + i + ")", x.moon(day, i), want);
             }
         }

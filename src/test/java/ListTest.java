@@ -79,25 +79,33 @@ public final class ListTest {
             }
             tried++;
             int base = random.nextInt(4400);
-            StoneDates x = Check.withTown(base);
-            Check.due("'" + text + "'", Check.stone(x, 0, text), 0);
-            compare(x, text, base, random);
+            compare(text, base, random);
         }
         Check.due("texts tried", tried, 400);
     }
 
-    private static void compare(StoneDates x, String text, int base, Random random) {
+    private static StoneDates made(String text, int base) {
+        StoneDates x = Check.withTown(base);
+        Check.due("'" + text + "'", Check.stone(x, 0, text), 0);
+        return x;
+    }
+
+    /** Two objects, as one has no more than 512 calls. */
+    private static void compare(String text, int base, Random random) {
+        StoneDates x = made(text, base);
+        StoneDates y = made(text, base);
         boolean[][] sets = setsOf(text);
         int found = 0;
+        int asked = 0;
         for (int day = FIRST; day <= LAST; day++) {
             boolean is = holds(sets, day, base);
             if (is && found < 300) {
                 Check.due("'" + text + "' day " + found, x.day(0, found), day);
             }
-            if (is || random.nextInt(2000) == 0) {
-                if (found < 400 || random.nextInt(500) == 0) {
-                    Check.due("'" + text + "' fits " + day, x.fits(0, day), is);
-                }
+            boolean asks = is && found < 200 || random.nextInt(3000) == 0;
+            if (asks && asked < 480) {
+                asked++;
+                Check.due("'" + text + "' fits " + day, y.fits(0, day), is);
             }
             found += is ? 1 : 0;
         }

@@ -50,67 +50,62 @@ public final class TapeTest {
         Check.due("the empty text", x.many(0), 432000);
     }
 
-    private static void place(String text, int want) {
-        StoneDates x = Check.withTown(0);
-        Check.due("'" + text + "'", Check.stone(x, 0, text), -2 - want);
-    }
-
     private static void places() {
-        place("long 9.9.16.0;", 13);
-        place("long 9.9.16.0.0.0;", 15);
-        place("long", 4);
-        place("long 9", 6);
-        place("long 9.9.16.0", 13);
-        place("long 9.9lord 1;", 8);
-        place("long 9.9/.9.9.9;", 9);
-        place("long 9.9.16.0.0", 15);
-        place("long 9.9.16.0.0  ", 17);
-        place("number", 6);
-        place("number;", 6);
-        place("number 123;", 9);
-        place("number 1-123;", 11);
-        place("number 99-123;", 12);
-        place("number 5-3;", 9);
-        place("number 5 -  3;", 12);
-        place("number 10-9;", 10);
-        place("number 1/5-3;", 11);
-        place("number 1-2-3;", 10);
-        place("number 5/;", 9);
-        place("number 5//6;", 9);
-        place("number -5;", 7);
-        place("number 5.", 8);
-        place("name ?/3;", 6);
-        place("name ??;", 6);
-        place("name 3/?;", 7);
-        place("name 3-?;", 7);
-        place("name 3?;", 6);
-        place("lord 3", 6);
-        place("day 3;", 0);
-        place("  day 3;", 2);
-        place("lord 3;day 3;", 7);
-        place("Long 9.9.9.9.9;", 0);
-        place("lOng 9.9.9.9.9;", 0);
-        place("longs 1", 0);
-        place("lordz 1;", 0);
-        place("lorda 1;", 0);
-        place("lord`1;", 4);
-        place("lord{1;", 4);
-        place("number 1:;", 8);
-        place("lon 1", 0);
-        place("moon 1 2;", 7);
-        place("month 1/2/3-4/?;", 14);
-        place(";", 0);
-        place("lord 1;;", 7);
-        place("3", 0);
-        place("lord\t1;", 4);
-        place("lord 1;\n", 7);
-        place("lordlord 1;", 0);
-        place("lord lord 1;", 5);
-        place("lord 1;".repeat(13), 84);
-        place("lord 1;".repeat(12) + "  lord 1;", 86);
-        place("lord 1;".repeat(12) + " x", 85);
-        place("lord 1;".repeat(12) + ";", 84);
-        place("lord 1;".repeat(11) + "lord 1", 83);
+        Check.place("long 9.9.16.0;", 13);
+        Check.place("long 9.9.16.0.0.0;", 15);
+        Check.place("long", 4);
+        Check.place("long 9", 6);
+        Check.place("long 9.9.16.0", 13);
+        Check.place("long 9.9lord 1;", 8);
+        Check.place("long 9.9/.9.9.9;", 9);
+        Check.place("long 9.9.16.0.0", 15);
+        Check.place("long 9.9.16.0.0  ", 17);
+        Check.place("number", 6);
+        Check.place("number;", 6);
+        Check.place("number 123;", 9);
+        Check.place("number 1-123;", 11);
+        Check.place("number 99-123;", 12);
+        Check.place("number 5-3;", 9);
+        Check.place("number 5 -  3;", 12);
+        Check.place("number 10-9;", 10);
+        Check.place("number 1/5-3;", 11);
+        Check.place("number 1-2-3;", 10);
+        Check.place("number 5/;", 9);
+        Check.place("number 5//6;", 9);
+        Check.place("number -5;", 7);
+        Check.place("number 5.", 8);
+        Check.place("name ?/3;", 6);
+        Check.place("name ??;", 6);
+        Check.place("name 3/?;", 7);
+        Check.place("name 3-?;", 7);
+        Check.place("name 3?;", 6);
+        Check.place("lord 3", 6);
+        Check.place("day 3;", 0);
+        Check.place("  day 3;", 2);
+        Check.place("lord 3;day 3;", 7);
+        Check.place("Long 9.9.9.9.9;", 0);
+        Check.place("lOng 9.9.9.9.9;", 0);
+        Check.place("longs 1", 0);
+        Check.place("lordz 1;", 0);
+        Check.place("lorda 1;", 0);
+        Check.place("lord`1;", 4);
+        Check.place("lord{1;", 4);
+        Check.place("number 1:;", 8);
+        Check.place("lon 1", 0);
+        Check.place("moon 1 2;", 7);
+        Check.place("month 1/2/3-4/?;", 14);
+        Check.place(";", 0);
+        Check.place("lord 1;;", 7);
+        Check.place("3", 0);
+        Check.place("lord\t1;", 4);
+        Check.place("lord 1;\n", 7);
+        Check.place("lordlord 1;", 0);
+        Check.place("lord lord 1;", 5);
+        Check.place("lord 1;".repeat(13), 84);
+        Check.place("lord 1;".repeat(12) + "  lord 1;", 86);
+        Check.place("lord 1;".repeat(12) + " x", 85);
+        Check.place("lord 1;".repeat(12) + ";", 84);
+        Check.place("lord 1;".repeat(11) + "lord 1", 83);
     }
 
     /** Bytes of the tape behind the text are no part of it. */
@@ -133,35 +128,29 @@ public final class TapeTest {
         cut("long 1.1.1.1", ".1;", -2 - 12);
     }
 
-    private static void stands(String text, int many) {
-        StoneDates x = Check.withTown(0);
-        Check.due("'" + text + "'", Check.stone(x, 0, text), 0);
-        Check.due("many '" + text + "'", x.count(1) == 1 ? x.many(0) : -9, many);
-    }
-
     private static void standing() {
-        stands("", 432000);
-        stands("   ", 432000);
-        stands("lord1;", 48000);
-        stands("lord ? ;", 432000);
-        stands(" lord 1 ; ", 48000);
-        stands("lord 01;", 48000);
-        stands("lord 1/1;", 48000);
-        stands("lord 1-1;", 48000);
-        stands("lord 0-99;", 432000);
-        stands("lord 0/10-99;", 0);
-        stands("lord 9/1-2/5;", 48000 * 4);
-        stands("lord 1-2 / 3 - 4;", 48000 * 4);
-        stands("lord 1;lord 2;", 0);
-        stands("lord 1-5;lord 5-9;", 48000);
-        stands("long 9 . 9 . 16 . 0 . 0 ;", 1);
-        stands("long9.9.16.0.0;", 1);
-        stands("long 09.09.16.00.00;", 1);
-        stands("lord 1;".repeat(12) + "   ", 48000);
-        stands("lord 31;", 0);
-        stands("lord 32;", 0);
-        stands("lord 33;", 0);
-        stands("lord 64-65;", 0);
+        Check.stands("", 432000);
+        Check.stands("   ", 432000);
+        Check.stands("lord1;", 48000);
+        Check.stands("lord ? ;", 432000);
+        Check.stands(" lord 1 ; ", 48000);
+        Check.stands("lord 01;", 48000);
+        Check.stands("lord 1/1;", 48000);
+        Check.stands("lord 1-1;", 48000);
+        Check.stands("lord 0-99;", 432000);
+        Check.stands("lord 0/10-99;", 0);
+        Check.stands("lord 9/1-2/5;", 48000 * 4);
+        Check.stands("lord 1-2 / 3 - 4;", 48000 * 4);
+        Check.stands("lord 1;lord 2;", 0);
+        Check.stands("lord 1-5;lord 5-9;", 48000);
+        Check.stands("long 9 . 9 . 16 . 0 . 0 ;", 1);
+        Check.stands("long9.9.16.0.0;", 1);
+        Check.stands("long 09.09.16.00.00;", 1);
+        Check.stands("lord 1;".repeat(12) + "   ", 48000);
+        Check.stands("lord 31;", 0);
+        Check.stands("lord 32;", 0);
+        Check.stands("lord 33;", 0);
+        Check.stands("lord 64-65;", 0);
     }
 
     private static void limits() {
