@@ -19,6 +19,7 @@ public final class EdgeListTest {
         dayRises();
         dayNoSuchStone();
         fitsFirstAndLastDay();
+        fitsAllButOne();
         fitsBehindTheList();
         fitsNoSuchStone();
         fitsNoSuchDay();
@@ -235,6 +236,22 @@ public final class EdgeListTest {
         StoneDates last = of("long 10.19.19.17.19;");
         Check.due("the last", last.fits(0, LAST), true);
         Check.due("the one ahead of it", last.fits(0, LAST - 1), false);
+    }
+
+    /** "if all its CLAUSES hold of it": one sign that is another one is enough. */
+    private static void fitsAllButOne() {
+        String[] others = {"long 9.?.?.?.?;", "long ?.1.?.?.?;", "long ?.?.1.?.?;", "long ?.?.?.1.?;",
+            "long ?.?.?.?.1;", "number 10;", "name 0;", "seat 4;", "month 3;", "lord 1;", "moon 27;"};
+        String[] same = {"long 8.?.?.?.?;", "long ?.0.?.?.?;", "long ?.?.0.?.?;", "long ?.?.?.0.?;",
+            "long ?.?.?.?.0;", "number 9;", "name 19;", "seat 3;", "month 2;", "lord 9;", "moon 26;"};
+        for (int i = 0; i < others.length; i++) {
+            Check.due("fits by " + same[i], of(same[i]).fits(0, FIRST), true);
+            Check.due("not by " + others[i], of(others[i]).fits(0, FIRST), false);
+            Check.due("not by " + same[i] + others[i], of(same[i] + others[i]).fits(0, FIRST), false);
+        }
+        StoneDates x = of(String.join("", same).replace("long ?.?.?.?.0;", ""));
+        Check.due("ten clauses hold", x.fits(0, FIRST), true);
+        Check.due("ten clauses don't", x.fits(0, FIRST + 1), false);
     }
 
     /** Promise 9, of days that `day` can't tell. */

@@ -30,6 +30,7 @@ public final class EdgeNetTest {
         settledDayEdgesOfK();
         settledDayRises();
         settledOfWrongOnes();
+        eachAskedFirst();
         askedCallsChangeNothing();
         Check.end("EdgeNetTest");
     }
@@ -424,6 +425,32 @@ public final class EdgeNetTest {
         wrongs("two against one", x, 0);
         settledDays("the others are right", x, 0, 0);
         settledDays("the others are right", x, 1, 12);
+    }
+
+    private static StoneDates twoAgainstOne() {
+        StoneDates x = of("long 8.0.0.0.0-5;", "long 8.0.0.0.9;");
+        x.distance(0, 1, 8);
+        x.distance(0, 1, 7);
+        x.distance(1, 0, -7);
+        return x;
+    }
+
+    /** Promises 11 to 14: each answers of all the distances, though no other was asked before. */
+    private static void eachAskedFirst() {
+        Check.due("least first", twoAgainstOne().least(), 1);
+        Check.due("wrong first", twoAgainstOne().wrong(0), 0);
+        Check.due("settled first", twoAgainstOne().settled(0), 1);
+        Check.due("settledDay first", twoAgainstOne().settledDay(0, 0), FIRST + 2);
+        for (int how = 0; how < 4; how++) {
+            StoneDates x = twoAgainstOne();
+            x.least();
+            x.distance(0, 1, 6);
+            x.distance(0, 1, 6);
+            x.distance(0, 1, 6);
+            long got = how == 0 ? x.least() : how == 1 ? x.wrong(2) : how == 2 ? x.settled(0) : x.settledDay(0, 0);
+            long want = how == 0 ? 3 : how == 1 ? 2 : how == 2 ? 1 : FIRST + 3;
+            Check.due("asked again, " + how, got, want);
+        }
     }
 
     /** Asking, also for what is not there, changes nothing. */

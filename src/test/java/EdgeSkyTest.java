@@ -407,8 +407,10 @@ public final class EdgeSkyTest {
         best("forty eclipses", forty, 1000, -100 - FIRST, 2);
     }
 
-    /** The answer is that of what is told now. */
+    /** The answer is that of what is told now, whichever of the two is asked first. */
     private static void agreesAsThingsChange() {
+        Check.due("agrees first", fortyEclipses().agrees(1000), 2);
+        Check.due("start first", fortyEclipses().start(1000), -100 - FIRST);
         StoneDates x = naming(FIRST, FIRST + 100);
         x.eclipse(1000);
         best("one eclipse", x, 0, 900 - FIRST, 1);

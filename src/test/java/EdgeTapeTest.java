@@ -359,6 +359,9 @@ public final class EdgeTapeTest {
             Check.place(word + "{" + part, word.length());
             Check.place(word, word.length());
             Check.place(word + word + part, 0);
+            for (int i = 0; i < word.length(); i++) {
+                Check.place("  " + word.substring(0, i) + "z" + word.substring(i + 1) + part, 2);
+            }
         }
         Check.place("a", 0);
         Check.place("z", 0);
