@@ -43,6 +43,25 @@ final class Check {
         }
     }
 
+    /** Two calls that must give the same answer, or the same exception. */
+    static void same(String what, Call call, Call model) {
+        String got = outcome(call);
+        String want = outcome(model);
+        asked++;
+        if (!got.equals(want)) {
+            wrong++;
+            System.out.println(what + " gave " + got + ", due is " + want);
+        }
+    }
+
+    private static String outcome(Call call) {
+        try {
+            return String.valueOf(call.run());
+        } catch (IllegalArgumentException | IllegalStateException | IndexOutOfBoundsException e) {
+            return e.getClass().getSimpleName();
+        }
+    }
+
     static void feed(StoneDates x, String text) {
         byte[] bytes = text.getBytes(StandardCharsets.ISO_8859_1);
         for (int from = 0; from < bytes.length; from += 20) {
